@@ -1024,7 +1024,7 @@ public final class BeardsAreBonds {
         int firstRing() {
             for (int v = 0; v < vowsHere && v < vows.length; v++) {
                 if (vows[v].state == STANDS) {
-                    int ring = closeRing(vows[v].from, vows[v].to, 1 << vows[v].from, 1 << v, 1);
+                    int ring = closeRing(this, vows[v].from, vows[v].to, 1 << vows[v].from, 1 << v, 1);
                     if (ring != 0) {
                         return ring;
                     }
@@ -1033,17 +1033,18 @@ public final class BeardsAreBonds {
             return 0;
         }
 
-        /** The vows so far, and the lowest further ones from man m on that close the ring at first. */
-        private int closeRing(int first, int m, int menIn, int vowsIn, int depth) {
+        /** The vows so far, and the lowest further ones from man m on that close the ring. */
+        private static int closeRing(Town town, int first, int m, int menIn, int vowsIn, int depth) {
             if (m == first) {
                 return vowsIn;
             }
             if (depth >= MOST_MEN || (menIn >> m & 1) != 0) {
                 return 0;
             }
-            for (int v = 0; v < vowsHere && v < vows.length; v++) {
-                if (vows[v].state == STANDS && vows[v].from == m) {
-                    int ring = closeRing(first, vows[v].to, menIn | 1 << m, vowsIn | 1 << v, depth + 1);
+            for (int v = 0; v < town.vowsHere && v < town.vows.length; v++) {
+                Vow vow = town.vows[v];
+                if (vow.state == STANDS && vow.from == m) {
+                    int ring = closeRing(town, first, vow.to, menIn | 1 << m, vowsIn | 1 << v, depth + 1);
                     if (ring != 0) {
                         return ring;
                     }
@@ -1605,22 +1606,22 @@ public final class BeardsAreBonds {
         void findBest() {
             least = -1;
             order = 0;
-            seatNext(0, 0, 0, 0, 0);
+            seatNext(this, 0, 0, 0, 0, 0);
         }
 
         /** Tries all orders, the first ones first, so that of like ones the first stays. */
-        private void seatNext(int depth, int seated, int clock, int waits, int digits) {
-            if (seated == waiting || depth >= MOST_MEN) {
-                if (least < 0 || waits < least) {
-                    least = waits;
-                    order = digits;
+        private static void seatNext(Barber b, int depth, int seated, int clock, int waits, int digits) {
+            if (seated == b.waiting || depth >= MOST_MEN) {
+                if (b.least < 0 || waits < b.least) {
+                    b.least = waits;
+                    b.order = digits;
                 }
                 return;
             }
-            for (int m = 0; m < minutes.length && m < weight.length; m++) {
-                if ((waiting >> m & 1) != 0 && (seated >> m & 1) == 0) {
-                    seatNext(depth + 1, seated | 1 << m, clock + minutes[m],
-                        waits + clock * weight[m], digits * 10 + m + 1);
+            for (int m = 0; m < b.minutes.length && m < b.weight.length; m++) {
+                if ((b.waiting >> m & 1) != 0 && (seated >> m & 1) == 0) {
+                    seatNext(b, depth + 1, seated | 1 << m, clock + b.minutes[m],
+                        waits + clock * b.weight[m], digits * 10 + m + 1);
                 }
             }
         }
