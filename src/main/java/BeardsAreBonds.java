@@ -255,12 +255,6 @@ public final class BeardsAreBonds {
         if (n < 0 || n > SEASON) {
             return BAD;
         }
-        int m = what - 10;
-        int v = what - 20;
-        boolean known = what >= 0 && what <= 4;
-        if (!known && now.manAt(m) == null && now.vowAt(v) == null) {
-            return NOT_SO;
-        }
         thought.become(now);
         thought.startTally();
         for (int nth = 0; nth < n; nth++) {

@@ -8,6 +8,9 @@ public final class LawTest {
         feeding();
         fullTexts();
         faults();
+        missingOnes();
+        fullTape();
+        oldBytes();
         depths();
         forcing();
         asking();
@@ -139,6 +142,60 @@ public final class LawTest {
         fault("grows beard oil;", 12);
         fault("grows beard + oil * more - week < owed = rank;", 39);
         fault("grows beard + oil * more - week < owed + rank;trims 1;shames 1;", -1);
+    }
+
+    /** A sign whose one is missing: what stands there could else end the part. */
+    private static void missingOnes() {
+        String[] signs = {"or", "and", "<", "=", "+", "-", "*"};
+        for (String sign : signs) {
+            fault("grows 1 " + sign + ";trims 1;shames 1;", 8 + sign.length());
+            fault("grows (1 " + sign + ");trims 1;shames 1;", 9 + sign.length());
+        }
+        fault("grows not;trims 1;shames 1;", 9);
+        fault("grows (not);trims 1;shames 1;", 10);
+        fault("grows -;trims 1;shames 1;", 7);
+        fault("grows (-);trims 1;shames 1;", 8);
+        fault("growsz 1;", 0);
+        fault("grows zeek;", 6);
+        fault("grows 1 xr 2;", 8);
+        fault("trows 1;", 0);
+        fault("grows 1{;", 7);
+        fault("grows 1`;", 7);
+        fault("grows 1/;", 7);
+        fault("grows 1:;", 7);
+    }
+
+    private static void fullTape() {
+        StringBuilder text = new StringBuilder("grows 0");
+        while (text.length() < 137) {
+            text.append("+1");
+        }
+        text.append(";trims 1;shames 1+1    ;");
+        check.due("a text of 160 bytes", text.length(), 160 + 1);
+        text.deleteCharAt(text.length() - 3);
+        BeardsAreBonds x = new BeardsAreBonds();
+        x.man(0, 0, 0);
+        check.due("it is a text", Check.text(x, text.toString()), 1);
+        x.force(1);
+        check.due("its grows", x.asks(0, 0, 0), 65);
+        check.due("its shames", x.asks(2, 0, 0), 2);
+        text.setLength(159);
+        fault(text + " ", 160);
+        fault(";".repeat(160), 0);
+        fault(" ".repeat(160), 160);
+        fault("grows" + ";".repeat(155), 5);
+        // 160 bytes, a token each behind the first one, till they end
+        fault("grows1" + "+1".repeat(77), 160);
+        fault("grows " + "1+".repeat(77), 160);
+    }
+
+    /** What has been on the tape ahead of a text is no part of a later one. */
+    private static void oldBytes() {
+        BeardsAreBonds x = new BeardsAreBonds();
+        check.due("fault of growsbeard", Check.text(x, "growsbeard"), -100);
+        check.due("fault of grows", Check.text(x, "grows"), -105);
+        check.due("fault of grows 99999", Check.text(x, "grows 99999"), -106);
+        check.due("fault of grows 99", Check.text(x, "grows 99"), -108);
     }
 
     private static void depths() {

@@ -74,14 +74,18 @@ public final class LotsTest {
         x.man(0, 0, 0);
         Check.law(x, "grows oil;trims 0;shames 0;");
         x.vow(1, 5, 0);
-        for (int seeds = 1; seeds <= 20; seeds++) {
-            int good = 0;
-            for (int seed = 99990; seed < 99990 + seeds; seed++) {
-                good += oil(seed, 0) >= 5 ? 1 : 0;
+        int[] firsts = {0, 1, 777, 5000, 40001, 99990, 99999};
+        for (int first : firsts) {
+            for (int seeds = 1; seeds <= 20; seeds++) {
+                int good = 0;
+                for (int seed = first; seed < first + seeds; seed++) {
+                    good += oil(seed, 0) >= 5 ? 1 : 0;
+                }
+                int divisor = java.math.BigInteger.valueOf(good).gcd(java.math.BigInteger.valueOf(seeds)).intValue();
+                String call = "odds(" + first + ", " + seeds + ", 1, ";
+                check.due(call + "0)", x.odds(first, seeds, 1, 0), good / divisor);
+                check.due(call + "1)", x.odds(first, seeds, 1, 1), seeds / divisor);
             }
-            int divisor = java.math.BigInteger.valueOf(good).gcd(java.math.BigInteger.valueOf(seeds)).intValue();
-            check.due("odds above of " + seeds, x.odds(99990, seeds, 1, 0), good / divisor);
-            check.due("odds below of " + seeds, x.odds(99990, seeds, 1, 1), seeds / divisor);
         }
         check.due("no weeks: 1", x.odds(7, 6, 0, 0), 1);
         check.due("no weeks: by 1", x.odds(7, 6, 0, 1), 1);

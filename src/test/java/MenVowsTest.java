@@ -169,6 +169,7 @@ public final class MenVowsTest {
         check.due("bond(1, 6)", x.bond(1, 6), 9);
         check.due("bond(1, 3): due stays", x.bond(1, 3), 4);
         check.due("plaits: the first is", x.plaits(0, 3), -3);
+        check.due("plaits: the first is, with vow 0", x.plaits(1, 3), -3);
         check.due("plaits: the second is", x.plaits(3, 1), -3);
         check.due("plaits: both are", x.plaits(0, 1), -3);
         x.vow(1, 8, 3);

@@ -47,15 +47,15 @@ public final class WeeksTest {
         grows(4, 3, 6, 7, 10);
         grows(4, 3, 7, 7, 0);
         grows(4, 3, 8, 7, 10);
-        grows(5, 7, 0, 8, 2);
-        grows(5, 7, 9, 8, 2);
-        grows(5, 7, 10, 8, 11);
-        grows(5, 7, 42, 8, 11);
-        grows(5, 7, 43, 8, 2);
-        grows(5, 7, 51, 8, 2);
-        grows(5, 7, 52, 8, 2);
-        grows(5, 7, 61, 8, 2);
-        grows(5, 7, 62, 8, 11);
+        grows(5, 7, 0, 11, 3);
+        grows(5, 7, 9, 11, 3);
+        grows(5, 7, 10, 11, 14);
+        grows(5, 7, 42, 11, 14);
+        grows(5, 7, 43, 11, 3);
+        grows(5, 7, 51, 11, 3);
+        grows(5, 7, 52, 11, 3);
+        grows(5, 7, 61, 11, 3);
+        grows(5, 7, 62, 11, 14);
         BeardsAreBonds x = new BeardsAreBonds();
         x.man(0, 0, 990);
         x.man(0, 0, 995);
@@ -320,8 +320,10 @@ public final class WeeksTest {
         check.due("take: missing", x.take(0, 0, 0), -11);
         Check.sheet(x, 0, 1, 1, 0, 1);
         check.due("take: an odd size", x.take(0, 0, 0), -2);
-        x.sheet(0, 1, 14);
+        Check.sheet(x, 0, 1, 1, 0, 1, 0, 1, 0, 1, 0, 1, 0, 1, 0, 1, 0);
         check.due("take: seven offers", x.take(0, 0, 0), -2);
+        Check.sheet(x, 0, 1, 1, 0, 1, 0, 1, 0, 1, 0, 1, 0, 1, 0);
+        check.due("take: six offers", x.take(0, 0, 0), -5);
         int[][] wrong = {{0, 0}, {201, 0}, {-1, 0}, {1, -1}, {1, 60}, {1, 1, 1, 60}};
         for (int[] offers : wrong) {
             Check.sheet(x, 0, 1, offers);
