@@ -155,6 +155,9 @@ public final class LawTest {
         fault("grows (not);trims 1;shames 1;", 10);
         fault("grows -;trims 1;shames 1;", 7);
         fault("grows (-);trims 1;shames 1;", 8);
+        fault("grows 1;trims 1;shames 1; ?", 26);
+        fault("grows 1;trims 1;shames 1; words", 26);
+        fault("grows 1;trims 1;shames 1; 12345", 26);
         fault("growsz 1;", 0);
         fault("grows zeek;", 6);
         fault("grows 1 xr 2;", 8);
