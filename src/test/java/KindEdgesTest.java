@@ -12,6 +12,7 @@ public final class KindEdgesTest {
         paidInGrace();
         youngAndOld();
         summerAndWinter();
+        ripeByWeeks();
         check.end();
     }
 
@@ -177,6 +178,36 @@ public final class KindEdgesTest {
             }
             x.set(0, 0, 0);
             check.due("week " + weeks[i], x.run(1, 10), grows[i]);
+        }
+    }
+
+    /** The first of 60 weeks, each growing by the text's and the kind's word of that week. */
+    private static void ripeByWeeks() {
+        int more = 4;
+        for (int kind = 0; kind < 6; kind++) {
+            BeardsAreBonds x = new BeardsAreBonds();
+            x.man(kind, more, 0);
+            Check.law(x, "grows week*(week<30);trims 0;shames 0;");
+            for (int now = 0; now < 12; now += 3) {
+                int beard = 0;
+                int most = -1;
+                for (int nth = 0; nth < 60; nth++) {
+                    int week = now + nth;
+                    beard = Math.min(999, beard + growth(kind, more, week, week < 30 ? week : 0));
+                    int counts = counts(kind, more, beard);
+                    String call = "kind " + kind + ", in week " + now + ", ripe for " + counts;
+                    if (counts > most) {
+                        check.due(call, x.ripe(0, counts), nth);
+                        check.due(call + ", soonest", x.soonest(0, counts), counts < 1 || counts > 200 ? -7 : nth);
+                    }
+                    most = Math.max(most, counts);
+                }
+                check.due("kind " + kind + ", in week " + now + ", never", x.ripe(0, most + 1), -1);
+                for (int w = 0; w < 3; w++) {
+                    x.live();
+                }
+                x.set(0, 0, 0);
+            }
         }
     }
 }
