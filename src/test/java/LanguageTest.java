@@ -1,8 +1,12 @@
+import java.lang.reflect.Field;
+import java.lang.reflect.Method;
+import java.lang.reflect.Modifier;
 import java.nio.file.Files;
 import java.nio.file.Path;
+import java.util.ArrayList;
 import java.util.List;
 
-/** What can be seen of the language's rules from the lines alone; the file's path is the argument. */
+/** What can be seen of the language's rules from the lines (the file's path is the argument) and the classes. */
 public final class LanguageTest {
     private static final Check check = new Check("LanguageTest");
     private static final List<String> WORDS = List.of("throw", "throws", "try", "catch", "synchronized", "assert",
@@ -30,6 +34,7 @@ public final class LanguageTest {
             }
         }
         methodsAreShort(source.split("\n"));
+        classesAreSmall();
         check.end();
     }
 
@@ -45,6 +50,29 @@ public final class LanguageTest {
                 size++;
             }
             check.due("sixty lines at most: " + lines[i].trim(), size <= 60 ? 1 : 0, 1);
+        }
+    }
+
+    private static void classesAreSmall() {
+        List<Class<?>> classes = new ArrayList<>(List.of(BeardsAreBonds.class.getDeclaredClasses()));
+        classes.add(BeardsAreBonds.class);
+        check.due("twelve classes at most", classes.size() <= 12 ? 1 : 0, 1);
+        for (Class<?> c : classes) {
+            String name = c.getSimpleName();
+            check.due("static: " + name, c == BeardsAreBonds.class || Modifier.isStatic(c.getModifiers()) ? 1 : 0, 1);
+            check.due("no class inside " + name, c == BeardsAreBonds.class ? 0 : c.getDeclaredClasses().length, 0);
+            int fields = 0;
+            for (Field f : c.getDeclaredFields()) {
+                boolean isStatic = Modifier.isStatic(f.getModifiers());
+                boolean isConstant = Modifier.isFinal(f.getModifiers()) && f.getType().isPrimitive();
+                fields += isStatic ? 0 : 1;
+                check.due("a static field is a constant: " + f, !isStatic || isConstant ? 1 : 0, 1);
+            }
+            check.due("twenty fields at most: " + name, fields <= 20 ? 1 : 0, 1);
+            for (Method m : c.getDeclaredMethods()) {
+                check.due("seven parameters at most: " + m, m.getParameterCount() <= 7 ? 1 : 0, 1);
+                check.due("not made by the compiler: " + m, m.isSynthetic() ? 1 : 0, 0);
+            }
         }
     }
 }
